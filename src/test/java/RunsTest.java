@@ -3,7 +3,7 @@ import java.util.Random;
 
 /** Long runs of calls, good and wrong ones, against the model; the seeds are fixed, so each run is the same. */
 public final class RunsTest {
-    private static final int[] SAFE = {23, 47, 59, 83, 107, 10007, 20123, 32603, 32423};
+    private static final int[] SAFE = {23, 47, 59, 83, 107, 10007, 20123, 32603, 32507};
     private static final int[] EDGES = {0, 1, 2, 3, 5, 6, -1, 7, 11, 12, Integer.MAX_VALUE, Integer.MIN_VALUE};
 
     private final Random random;
