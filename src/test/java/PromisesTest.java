@@ -124,6 +124,7 @@ public final class PromisesTest {
         SealTrust trust = small();
         int motion = move(trust, byteWithBlock(true), 1);
         consents(trust, motion, 0, 1, 2);
+        trust.object(motion, 3);
         trust.join(motion);
         trust.suspend(4, true);
         trust.refresh(1, 1);
@@ -182,8 +183,8 @@ public final class PromisesTest {
         large.put(0x80FF7F01, 2);
         large.put(0x80FF7F01, 1);
         int motion = large.motion();
-        Check.due("3 the lowest bytes, the highest first", Model.blockOf(n, 0x80, 0xFF, 0x7F, 1, 0xFF, 0x7F, 1, 0x7F, 1, 1),
-                () -> large.told(motion, 1));
+        Check.due("3 the lowest bytes, the highest first",
+                Model.blockOf(n, 0x80, 0xFF, 0x7F, 1, 0xFF, 0x7F, 1, 0x7F, 1, 1), () -> large.told(motion, 1));
     }
 
     private static void promise4() {
@@ -438,6 +439,10 @@ public final class PromisesTest {
         trust.file(0, 0, 1081 - 122, 0, 201);
         trust.file(0, 1, 64 + 1081, 65535, 175);
         Check.due("9 one of them is beyond N", 2, () -> trust.bad(0));
+        trust.file(0, 3, 1, 7896, 0);
+        Check.due("9 power 1 and z 0", 2, () -> trust.bad(0));
+        trust.file(0, 3, 1080, 7896, 0);
+        Check.due("9 power N - 1 and z 0", 2, () -> trust.bad(0));
 
         SealTrust powers = small();
         move(powers, 1, 1);
