@@ -30,45 +30,10 @@ public final class PromisesTest {
         Check.end("PromisesTest");
     }
 
-    /** N = 1081, m = 253. */
-    private static SealTrust small() {
-        SealTrust trust = new SealTrust();
-        trust.deal(23, 47, 5, 7, 3);
-        return trust;
-    }
-
-    private static SealTrust large() {
-        SealTrust trust = new SealTrust();
-        trust.deal(10007, 20123, 123456, 654321, 777);
-        return trust;
-    }
-
     private static Model largeModel() {
         Model model = new Model();
         model.deal(10007, 20123, 123456, 654321, 777);
         return model;
-    }
-
-    private static int move(SealTrust trust, int word, int n) {
-        trust.put(word, n);
-        return trust.motion();
-    }
-
-    private static void consents(SealTrust trust, int motion, int... trustees) {
-        for (int trustee : trustees) {
-            trust.consent(motion, trustee);
-        }
-    }
-
-    /** A byte whose document's block is, or is not, prime to 23 * 47. */
-    private static int byteWithBlock(boolean prime) {
-        for (int word = 0; word < 256; word++) {
-            long block = Model.blockOf(1081, word);
-            if ((block % 23 != 0 && block % 47 != 0) == prime) {
-                return word;
-            }
-        }
-        throw new IllegalStateException("no such byte");
     }
 
     private static void promise1() {
@@ -86,7 +51,7 @@ public final class PromisesTest {
     }
 
     private static void promise2() {
-        SealTrust trust = small();
+        SealTrust trust = Trusts.small();
         Check.due("2 N", 1081, () -> trust.state(0));
         Check.due("2 check 0", 277, () -> trust.state(5));
         Check.due("2 check 5", 1061, () -> trust.state(10));
@@ -121,9 +86,9 @@ public final class PromisesTest {
     }
 
     private static void dealAnew() {
-        SealTrust trust = small();
-        int motion = move(trust, byteWithBlock(true), 1);
-        consents(trust, motion, 0, 1, 2);
+        SealTrust trust = Trusts.small();
+        int motion = Trusts.move(trust, Trusts.byteWithBlock(true), 1);
+        Trusts.consents(trust, motion, 0, 1, 2);
         trust.object(motion, 3);
         trust.join(motion);
         trust.suspend(4, true);
@@ -176,7 +141,7 @@ public final class PromisesTest {
         Check.due("3 the last two", 24, () -> trust.put(1, 2));
         Check.illegal("3 one is more than 24", () -> trust.put(1, 1));
 
-        SealTrust large = large();
+        SealTrust large = Trusts.large();
         long n = 10007L * 20123L;
         large.put(0x80FF7F01, 4);
         large.put(0x80FF7F01, 3);
@@ -208,7 +173,7 @@ public final class PromisesTest {
         Check.due("4 a document of one byte", Model.blockOf(n, 97), () -> trust.told(0, 1));
         Check.due("4 the last document", Model.blockOf(n, 11), () -> trust.told(11, 1));
 
-        SealTrust full = large();
+        SealTrust full = Trusts.large();
         int[] bytes = new int[24];
         for (int i = 0; i < 6; i++) {
             full.put(0xFEDCBA98, 4);
@@ -219,11 +184,11 @@ public final class PromisesTest {
     }
 
     private static void promise5() {
-        SealTrust trust = large();
+        SealTrust trust = Trusts.large();
         Model model = largeModel();
         model.put(0x6162, 2);
         model.motion();
-        int motion = move(trust, 0x6162, 2);
+        int motion = Trusts.move(trust, 0x6162, 2);
         for (int trustee : NO_TRUSTEES) {
             Check.acts("5 trustee " + trustee, NONE, () -> trust.consent(motion, trustee));
         }
@@ -244,8 +209,8 @@ public final class PromisesTest {
     }
 
     private static void refusedConsents() {
-        SealTrust trust = large();
-        int motion = move(trust, 0x6162, 2);
+        SealTrust trust = Trusts.large();
+        int motion = Trusts.move(trust, 0x6162, 2);
         trust.object(motion, 1);
         Check.acts("5 after an objection", STATE, () -> trust.consent(motion, 1));
         trust.suspend(2, true);
@@ -256,10 +221,10 @@ public final class PromisesTest {
         trust.file(motion, 3, 1, 1, 1);
         Check.acts("5 after a filed partial", STATE, () -> trust.consent(motion, 3));
         Check.due("5 the filed one stays", 1, () -> trust.partial(motion, 3, 0));
-        consents(trust, motion, 0, 4);
+        Trusts.consents(trust, motion, 0, 4);
         trust.join(motion);
         Check.acts("5 sealed", STATE, () -> trust.consent(motion, 5));
-        int closed = move(trust, 1, 1);
+        int closed = Trusts.move(trust, 1, 1);
         trust.object(closed, 0);
         trust.object(closed, 1);
         Check.acts("5 two objections", FINE, () -> trust.consent(closed, 3));
@@ -269,8 +234,8 @@ public final class PromisesTest {
     }
 
     private static void promise6() {
-        SealTrust trust = large();
-        int motion = move(trust, 0x6162, 2);
+        SealTrust trust = Trusts.large();
+        int motion = Trusts.move(trust, 0x6162, 2);
         for (int trustee : NO_TRUSTEES) {
             Check.acts("6 trustee " + trustee, NONE, () -> trust.object(motion, trustee));
         }
@@ -291,15 +256,15 @@ public final class PromisesTest {
         Check.due("6 partials stay", 3, () -> trust.told(motion, 2));
         Check.acts("6 closed", STATE, () -> trust.object(motion, 4));
         Check.due("6 three voices", 44, () -> trust.told(motion, 3));
-        int sealed = move(trust, 9, 1);
-        consents(trust, sealed, 0, 1, 2);
+        int sealed = Trusts.move(trust, 9, 1);
+        Trusts.consents(trust, sealed, 0, 1, 2);
         trust.join(sealed);
         Check.acts("6 sealed", STATE, () -> trust.object(sealed, 4));
     }
 
     private static void promise7() {
-        SealTrust trust = large();
-        int motion = move(trust, 0x6162, 2);
+        SealTrust trust = Trusts.large();
+        int motion = Trusts.move(trust, 0x6162, 2);
         for (int trustee : NO_TRUSTEES) {
             Check.acts("7 trustee " + trustee, NONE, () -> trust.file(motion, trustee, 1, 1, 1));
         }
@@ -325,15 +290,15 @@ public final class PromisesTest {
         trust.object(motion, 5);
         Check.acts("7 closed", STATE, () -> trust.file(motion, 0, 1, 1, 1));
         Check.due("7 a closed one keeps its own", Long.MAX_VALUE, () -> trust.partial(motion, 0, 0));
-        int sealed = move(trust, 9, 1);
-        consents(trust, sealed, 0, 1, 3);
+        int sealed = Trusts.move(trust, 9, 1);
+        Trusts.consents(trust, sealed, 0, 1, 3);
         trust.join(sealed);
         Check.acts("7 sealed", STATE, () -> trust.file(sealed, 0, 1, 1, 1));
     }
 
     private static void promise8() {
-        SealTrust trust = large();
-        int motion = move(trust, 0x6162, 2);
+        SealTrust trust = Trusts.large();
+        int motion = Trusts.move(trust, 0x6162, 2);
         Check.none("8 none is filed", () -> trust.partial(motion, 0, 0));
         Check.none("8 none is filed, and no such what", () -> trust.partial(motion, 0, 3));
         trust.consent(motion, 0);
@@ -349,7 +314,7 @@ public final class PromisesTest {
         Check.none("8 an objection is no partial", () -> trust.partial(motion, 1, 0));
         trust.refresh(1, 1);
         Check.none("8 gone with the refreshing", () -> trust.partial(motion, 0, 0));
-        SealTrust small = small();
+        SealTrust small = Trusts.small();
         small.put(1416128883, 4);
         small.motion();
         small.consent(0, 0);
@@ -359,12 +324,12 @@ public final class PromisesTest {
     }
 
     private static void promise9() {
-        SealTrust trust = large();
-        int motion = move(trust, 0x6162, 2);
+        SealTrust trust = Trusts.large();
+        int motion = Trusts.move(trust, 0x6162, 2);
         Check.due("9 without partials", 0, () -> trust.bad(motion));
         Check.none("9 no such motion", () -> trust.bad(1));
         Check.none("9 motion -1", () -> trust.bad(-1));
-        consents(trust, motion, 0, 1, 2, 3, 4, 5);
+        Trusts.consents(trust, motion, 0, 1, 2, 3, 4, 5);
         Check.due("9 honest ones", 0, () -> trust.bad(motion));
         long n = trust.state(0);
         long power = trust.partial(motion, 4, 0);
@@ -403,13 +368,13 @@ public final class PromisesTest {
     }
 
     private static void badLater() {
-        SealTrust trust = large();
-        int sealed = move(trust, 0x6162, 2);
-        int closed = move(trust, 0x6162, 2);
-        int open = move(trust, 0x6162, 2);
-        consents(trust, sealed, 0, 1, 2);
-        consents(trust, closed, 0, 1, 2);
-        consents(trust, open, 0, 1, 2);
+        SealTrust trust = Trusts.large();
+        int sealed = Trusts.move(trust, 0x6162, 2);
+        int closed = Trusts.move(trust, 0x6162, 2);
+        int open = Trusts.move(trust, 0x6162, 2);
+        Trusts.consents(trust, sealed, 0, 1, 2);
+        Trusts.consents(trust, closed, 0, 1, 2);
+        Trusts.consents(trust, open, 0, 1, 2);
         trust.join(sealed);
         trust.object(closed, 3);
         trust.object(closed, 4);
@@ -426,9 +391,9 @@ public final class PromisesTest {
         trust.refresh(m - 9, m - 9);
         Check.due("9 sealed, by the first checks", 0, () -> trust.bad(sealed));
 
-        SealTrust small = small();
-        int motion = move(small, byteWithBlock(false), 1);
-        consents(small, motion, 0, 3, 5);
+        SealTrust small = Trusts.small();
+        int motion = Trusts.move(small, Trusts.byteWithBlock(false), 1);
+        Trusts.consents(small, motion, 0, 3, 5);
         Check.due("9 a block that is not prime to N", 41, () -> small.bad(motion));
     }
 
@@ -444,14 +409,14 @@ public final class PromisesTest {
         trust.file(0, 3, 1080, 7896, 0);
         Check.due("9 power N - 1 and z 0", 2, () -> trust.bad(0));
 
-        SealTrust powers = small();
-        move(powers, 1, 1);
+        SealTrust powers = Trusts.small();
+        Trusts.move(powers, 1, 1);
         powers.file(0, 1, 12 * 23, 0, 60);
         powers.file(0, 4, 6 * 47, 0, 94);
         Check.due("9 proofs hold, the powers are not prime to N", 18, () -> powers.bad(0));
 
-        SealTrust blocks = small();
-        move(blocks, 5, 1);
+        SealTrust blocks = Trusts.small();
+        Trusts.move(blocks, 5, 1);
         Check.due("9 a block that 23 divides", 460, () -> blocks.told(0, 1));
         blocks.file(0, 2, 49, 0, 97);
         blocks.file(0, 4, 321, 0, 138);
@@ -460,8 +425,8 @@ public final class PromisesTest {
 
     /** Three partials with wrong powers (507, 545 and 346 are right) that are good all the same. */
     private static SealTrust forged() {
-        SealTrust trust = small();
-        move(trust, 1416128883, 4);
+        SealTrust trust = Trusts.small();
+        Trusts.move(trust, 1416128883, 4);
         trust.file(0, 0, 122, 0, 201);
         trust.file(0, 1, 64, 65535, 175);
         trust.file(0, 2, 6, 12345, 238);
@@ -469,12 +434,12 @@ public final class PromisesTest {
     }
 
     private static void promise10() {
-        SealTrust trust = large();
-        int motion = move(trust, 0x6162, 2);
+        SealTrust trust = Trusts.large();
+        int motion = Trusts.move(trust, 0x6162, 2);
         Check.none("10 no such motion", () -> trust.join(1));
         Check.none("10 motion -1", () -> trust.join(-1));
         Check.state("10 no partial", () -> trust.join(motion));
-        consents(trust, motion, 1, 3);
+        Trusts.consents(trust, motion, 1, 3);
         Check.state("10 two", () -> trust.join(motion));
         trust.file(motion, 0, 5, 5, 5);
         Check.state("10 two and a bad one", () -> trust.join(motion));
@@ -489,8 +454,8 @@ public final class PromisesTest {
         Check.due("10 partials stay", 15, () -> trust.told(motion, 2));
         Check.state("10 a second time", () -> trust.join(motion));
         Check.due("10 the book has it once", -1, () -> trust.book(1));
-        int closed = move(trust, 1, 1);
-        consents(trust, closed, 0, 1, 2);
+        int closed = Trusts.move(trust, 1, 1);
+        Trusts.consents(trust, closed, 0, 1, 2);
         trust.object(closed, 3);
         trust.object(closed, 4);
         trust.object(closed, 5);
@@ -501,10 +466,10 @@ public final class PromisesTest {
     }
 
     private static void joinNotPrime() {
-        SealTrust trust = small();
-        int motion = move(trust, byteWithBlock(false), 1);
+        SealTrust trust = Trusts.small();
+        int motion = Trusts.move(trust, Trusts.byteWithBlock(false), 1);
         Check.due("10 not prime, without partials", "throws.ArithmeticException", () -> trust.join(motion));
-        consents(trust, motion, 0, 1, 2);
+        Trusts.consents(trust, motion, 0, 1, 2);
         Check.due("10 not prime", "throws.ArithmeticException", () -> trust.join(motion));
         Check.due("10 not prime, it stays open", 0, () -> trust.told(motion, 0));
         trust.object(motion, 3);
@@ -526,7 +491,7 @@ public final class PromisesTest {
             int word = 0x1000 + mask;
             model.put(word, 3);
             model.motion();
-            int motion = move(trust, word, 3);
+            int motion = Trusts.move(trust, word, 3);
             long x = trust.told(motion, 1);
             trust.refresh(mask, MANY);
             for (int i = 0; i < 6; i++) {
@@ -590,8 +555,8 @@ public final class PromisesTest {
         for (boolean prime : new boolean[] {true, false}) {
             int signatures = 0;
             for (int y = 0; y < 1081; y++) {
-                SealTrust small = small();
-                small.put(byteWithBlock(prime), 1);
+                SealTrust small = Trusts.small();
+                small.put(Trusts.byteWithBlock(prime), 1);
                 signatures += small.verify(y) ? 1 : 0;
             }
             Check.due("11 there is just one, block prime " + prime, signatures, 1);
@@ -604,11 +569,11 @@ public final class PromisesTest {
         Check.acts("12 a below 0 and no key", ILLEGAL, () -> trust.refresh(-1, 1));
         trust.deal(10007, 20123, 123456, 654321, 777);
         Model model = largeModel();
-        int open = move(trust, 0x6162, 2);
-        int sealed = move(trust, 0x6162, 2);
-        consents(trust, open, 0, 1);
+        int open = Trusts.move(trust, 0x6162, 2);
+        int sealed = Trusts.move(trust, 0x6162, 2);
+        Trusts.consents(trust, open, 0, 1);
         trust.object(open, 4);
-        consents(trust, sealed, 0, 1, 2);
+        Trusts.consents(trust, sealed, 0, 1, 2);
         trust.join(sealed);
         trust.suspend(3, true);
         Check.acts("12 a below 0", ILLEGAL, () -> trust.refresh(-1, 1));
@@ -631,7 +596,7 @@ public final class PromisesTest {
         Check.due("12 suspended seats stay", 8, () -> trust.state(3));
         Check.acts("12 who objected has a voice", STATE, () -> trust.consent(open, 4));
         Check.acts("12 who consented can object", FINE, () -> trust.object(open, 0));
-        consents(trust, open, 1, 2, 5);
+        Trusts.consents(trust, open, 1, 2, 5);
         model.put(0x6162, 2);
         model.motion();
         Check.due("12 r has the epoch", model.honest(0, 5).z(), () -> trust.partial(open, 5, 2));
@@ -673,14 +638,14 @@ public final class PromisesTest {
             trust.refresh(MANY, 77);
             Check.due("14 after a refreshing", true, () -> trust.parts(0b101001));
         }
-        Check.illegal("14 three bits beyond", () -> small().parts(7 << 29));
-        Check.illegal("14 all bits", () -> small().parts(-1));
+        Check.illegal("14 three bits beyond", () -> Trusts.small().parts(7 << 29));
+        Check.illegal("14 all bits", () -> Trusts.small().parts(-1));
     }
 
     private static void promise15() {
-        SealTrust trust = large();
+        SealTrust trust = Trusts.large();
         Check.none("15 no motion", () -> trust.told(0, 0));
-        int motion = move(trust, 0x6162, 2);
+        int motion = Trusts.move(trust, 0x6162, 2);
         for (int what : new int[] {-1, 5, MANY}) {
             Check.illegal("15 what " + what, () -> trust.told(motion, what));
         }
@@ -688,13 +653,13 @@ public final class PromisesTest {
         Check.none("15 motion -1", () -> trust.told(-1, 0));
         long[] due = {0, 157466736, 0, 0, 0};
         tells(trust, motion, "at first", due);
-        consents(trust, motion, 0, 5);
+        Trusts.consents(trust, motion, 0, 5);
         trust.object(motion, 1);
         tells(trust, motion, "with voices", new long[] {0, 157466736, 33, 2, 0});
         trust.consent(motion, 3);
         trust.join(motion);
         tells(trust, motion, "sealed", new long[] {1, 157466736, 41, 2, 177153730});
-        int closed = move(trust, 0x6261, 2);
+        int closed = Trusts.move(trust, 0x6261, 2);
         trust.object(closed, 0);
         trust.object(closed, 1);
         trust.consent(closed, 5);
@@ -710,12 +675,12 @@ public final class PromisesTest {
     }
 
     private static void promise16() {
-        SealTrust trust = large();
+        SealTrust trust = Trusts.large();
         Check.due("16 empty", -1, () -> trust.book(0));
         Check.illegal("16 -1", () -> trust.book(-1));
         Check.illegal("16 the least", () -> trust.book(Integer.MIN_VALUE));
         for (int i = 0; i < 12; i++) {
-            consents(trust, move(trust, i, 1), i % 4, 4, 5);
+            Trusts.consents(trust, Trusts.move(trust, i, 1), i % 4, 4, 5);
         }
         int[] order = {5, 0, 11, 3, 1, 2, 10, 9, 8, 7, 6, 4};
         for (int i = 0; i < 12; i++) {

@@ -4,6 +4,7 @@ import java.util.concurrent.Callable;
 final class Check {
     private static int done = 0;
     private static int wrong = 0;
+    private static String heading = "";
 
     private Check() {
     }
@@ -32,7 +33,7 @@ final class Check {
         done++;
         if (!String.valueOf(got).equals(String.valueOf(due))) {
             wrong++;
-            System.out.println(what + ": answered " + got + ", due is " + due);
+            System.out.println(heading + what + ": answered " + got + ", due is " + due);
         }
     }
 
@@ -55,6 +56,17 @@ final class Check {
     /** A call without an answer is checked for what it throws; "nothing" means that it throws nothing. */
     static void acts(String what, String due, Act call) {
         due(what, act(call), due);
+    }
+
+    static int done() {
+        return done;
+    }
+
+    /** What is wrong in these tests is told under a heading. */
+    static void under(String words, Runnable tests) {
+        heading = words;
+        tests.run();
+        heading = "";
     }
 
     static void end(String test) {
