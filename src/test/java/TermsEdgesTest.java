@@ -370,6 +370,8 @@ public final class TermsEdgesTest {
         filed(1, 64, 65535 + 65536, 175, false);
 
         filed(0, 2, 13959, 0, true);
+        filed(0, 2, 13959, -1, false);
+        filed(0, 2, 13959, Long.MIN_VALUE, false);
         filed(0, 1, 48210, -1, false);
         filed(0, 1, 48210, -1 - M, false);
         filed(0, 2, 37610, Long.MAX_VALUE, true);
