@@ -61,8 +61,12 @@ final class Model {
         return 2 + mix(numbers) % (modulus - 3);
     }
 
-    private long bufferBlock() {
+    long bufferBlock() {
         return blockOf(n.longValueExact(), buffer.stream().mapToInt(x -> x).toArray());
+    }
+
+    long order() {
+        return m.longValueExact();
     }
 
     BigInteger d() {
