@@ -321,19 +321,25 @@ public final class SealTrust {
         return mixed >>> 33;
     }
 
-    /** Base and modulus stay below 2^31, so that no product leaves a long. */
-    private static long powerModulo(long base, long exponent, long modulus) {
-        if (modulus <= 0) {
+    /** 0 .. divisor - 1, for numbers below 0 too; 0 where a key that is not dealt leaves no divisor. */
+    private static long rest(long number, long divisor) {
+        if (divisor <= 0) {
             return 0;
         }
-        long result = 1 % modulus;
-        long square = base % modulus;
+        long left = number % divisor;
+        return left < 0 ? left + divisor : left;
+    }
+
+    /** Base and modulus stay below 2^31, so that no product leaves a long. */
+    private static long powerModulo(long base, long exponent, long modulus) {
+        long result = rest(1, modulus);
+        long square = rest(base, modulus);
         long left = exponent;
         for (int bit = 0; bit < 63 && left > 0; bit++) {
             if ((left & 1) == 1) {
-                result = result * square % modulus;
+                result = rest(result * square, modulus);
             }
-            square = square * square % modulus;
+            square = rest(square * square, modulus);
             left >>= 1;
         }
         return result;
@@ -424,11 +430,10 @@ public final class SealTrust {
         private long base;
         private long whole;
         private long signing;
-        // Ones until a key is dealt, so that no rest is ever taken by zero.
-        private long p = 1;
-        private long q = 1;
-        private long modulus = 1;
-        private long order = 1;
+        private long p;
+        private long q;
+        private long modulus;
+        private long order;
 
         /** Every part is d until the polynomial's rest is added, which makes the checks too. */
         void begin(long newP, long newQ, long root) {
@@ -441,8 +446,8 @@ public final class SealTrust {
             // Blocks need not be squares, so signing needs the inverse modulo 2 m; of the numbers
             // below 2 m, (p' - 1)(q' - 1) are prime to it, and that power of each is 1.
             signing = powerModulo(PUBLIC_EXPONENT, (halfP - 1) * (halfQ - 1) - 1, 2 * order);
-            whole = signing % order;
-            base = root * root % modulus;
+            whole = rest(signing, order);
+            base = rest(root * root, modulus);
             epoch = 0;
             dealt = true;
             for (int i = 0; i < TRUSTEES; i++) {
@@ -453,17 +458,17 @@ public final class SealTrust {
         void addPolynomial(long a, long b) {
             for (int i = 0; i < TRUSTEES; i++) {
                 long t = i + 1;
-                shares[i] = (shares[i] + a * t + b * t * t) % order;
+                shares[i] = rest(shares[i] + a * t + b * t * t, order);
                 checks[i] = power(base, shares[i]);
             }
         }
 
         boolean isPrimeToModulus(long number) {
-            return number % p != 0 && number % q != 0;
+            return rest(number, p) != 0 && rest(number, q) != 0;
         }
 
         long blockOf(Buffer document) {
-            return 2 + document.mix() % (modulus - 3);
+            return 2 + rest(document.mix(), modulus - 3);
         }
 
         long signatureOf(long block) {
@@ -515,7 +520,7 @@ public final class SealTrust {
                     sum += shares[i] * weight(mask, i);
                 }
             }
-            return Math.floorMod(sum, order) == WHOLE_FACTOR * whole % order;
+            return rest(sum, order) == rest(WHOLE_FACTOR * whole, order);
         }
 
         private static long weight(int mask, int i) {
@@ -535,7 +540,7 @@ public final class SealTrust {
         }
 
         private long times(long a, long b) {
-            return a * b % modulus;
+            return rest(a * b, modulus);
         }
 
         private long power(long number, long exponent) {
@@ -544,7 +549,7 @@ public final class SealTrust {
 
         /** A number prime to N to the power of 2 m is 1, so the rest of -c by it serves for -c. */
         private long inversePower(long number, long c) {
-            return power(number, Math.floorMod(-c, 2 * order));
+            return power(number, rest(-c, 2 * order));
         }
     }
 }

@@ -3,8 +3,11 @@ import com.sun.source.tree.BinaryTree;
 import com.sun.source.tree.BlockTree;
 import com.sun.source.tree.ClassTree;
 import com.sun.source.tree.CompilationUnitTree;
+import com.sun.source.tree.CompoundAssignmentTree;
 import com.sun.source.tree.DoWhileLoopTree;
+import com.sun.source.tree.ExpressionTree;
 import com.sun.source.tree.ForLoopTree;
+import com.sun.source.tree.IdentifierTree;
 import com.sun.source.tree.LambdaExpressionTree;
 import com.sun.source.tree.LineMap;
 import com.sun.source.tree.LiteralTree;
@@ -21,6 +24,7 @@ import com.sun.source.tree.TypeCastTree;
 import com.sun.source.tree.VariableTree;
 import com.sun.source.tree.WhileLoopTree;
 import com.sun.source.util.JavacTask;
+import com.sun.source.util.TreePath;
 import com.sun.source.util.TreePathScanner;
 import com.sun.source.util.Trees;
 import java.nio.file.Path;
@@ -30,6 +34,7 @@ import java.util.Set;
 import java.util.TreeMap;
 import java.util.TreeSet;
 import javax.lang.model.element.Element;
+import javax.lang.model.element.ElementKind;
 import javax.lang.model.element.ExecutableElement;
 import javax.lang.model.element.Modifier;
 import javax.lang.model.element.VariableElement;
@@ -40,7 +45,8 @@ import javax.tools.ToolProvider;
 
 /**
  * The rules of LANGUAGE.md that can be read off the file, by their numbers. Where the class uses less than a rule
- * leaves it, the test asks for that less; rule 7 and the ends of loops are left to the other tests and to readers.
+ * leaves it, the test asks for that less. Of rule 7 it reads the divisors alone: indexes and the ends of loops are
+ * left to the other tests and to readers.
  */
 public final class LanguageTest {
     private static final Path FILE = Path.of("src/main/java/SealTrust.java");
@@ -49,6 +55,8 @@ public final class LanguageTest {
             "NoSuchElementException", "RuntimeException");
     private static final Set<String> TYPES = Set.of("int", "long", "boolean", "int[]", "long[]", "void");
     private static final Set<String> LIBRARY = Set.of("java.lang.Integer", "java.lang.Long", "java.lang.Math");
+    private static final Set<Tree.Kind> DIVIDING = Set.of(Tree.Kind.DIVIDE, Tree.Kind.REMAINDER,
+            Tree.Kind.DIVIDE_ASSIGNMENT, Tree.Kind.REMAINDER_ASSIGNMENT);
     private static final int MOST_LINES = 60;
     private static final int MOST_DEEP = 8;
 
@@ -231,6 +239,9 @@ public final class LanguageTest {
                         LIBRARY.contains(owner) && numbers && called.getModifiers().contains(Modifier.STATIC)
                         && !called.getSimpleName().toString().endsWith("Exact"), true);
             }
+            if (called.getSimpleName().toString().matches("(floor|ceil|divide|remainder).*")) {
+                divides(Tree.Kind.DIVIDE, tree.getArguments().get(1));
+            }
             return super.visitMethodInvocation(tree, nothing);
         }
 
@@ -276,7 +287,23 @@ public final class LanguageTest {
         public Void visitBinary(BinaryTree tree, Void nothing) {
             String type = trees.getTypeMirror(getCurrentPath()).toString();
             Check.due("10 no texts are joined by +" + at(tree), TYPES.contains(type), true);
+            divides(tree.getKind(), tree.getRightOperand());
             return super.visitBinary(tree, nothing);
+        }
+
+        @Override
+        public Void visitCompoundAssignment(CompoundAssignmentTree tree, Void nothing) {
+            divides(tree.getKind(), tree.getExpression());
+            return super.visitCompoundAssignment(tree, nothing);
+        }
+
+        /** Whether the method has looked at it is for readers; of a field they could not see it. */
+        private void divides(Tree.Kind kind, ExpressionTree divisor) {
+            boolean divides = DIVIDING.contains(kind);
+            boolean field = divisor instanceof IdentifierTree
+                    && trees.getElement(new TreePath(getCurrentPath(), divisor)).getKind() == ElementKind.FIELD;
+            boolean plain = divisor instanceof LiteralTree || divisor instanceof IdentifierTree && !field;
+            Check.due("7 a divisor is written or the method's own" + at(divisor), !divides || plain, true);
         }
 
         @Override
